@@ -152,7 +152,7 @@ public final class ParcelShelves {
             return NO_SUCH;
         }
         int at = shelf * PLACES_OF_SHELF + place;
-        return now.isFree(at) ? NONE : now.codes[at];
+        return now.isFree(at) ? NONE : now.codeOn(at);
     }
 
     public int shelf(int shelf, int part) {
@@ -245,17 +245,18 @@ public final class ParcelShelves {
         if (!isWithin(day, 0, LAST_DAY)) {
             return BAD_VALUE;
         }
-        return codeOn(day, shelf * PLACES_OF_SHELF + place);
+        return codeFor(weekdayOf(day), shelf * PLACES_OF_SHELF + place);
     }
 
     public int restsUntil(int code) {
         if (!isWithin(code, 0, LAST_CODE)) {
             return BAD_VALUE;
         }
-        if (!now.rests(code)) {
+        int index = indexOfCode(code);
+        if (index < 0 || !now.rests(index)) {
             return NONE;
         }
-        return now.endOfRest(code);
+        return now.leftOn[index] + now.settings[REST];
     }
 
     // ---- predictions; they change nothing
@@ -265,7 +266,7 @@ public final class ParcelShelves {
             return BAD_VALUE;
         }
         int at = now.placeToGive(firstShelfFor(size), SHELVES - 1);
-        return at == NOWHERE ? NONE : codeOn(now.today, at);
+        return at == NOWHERE ? NONE : codeFor(weekdayOf(now.today), at);
     }
 
     public int feeIn(int code, int days) {
@@ -328,7 +329,15 @@ public final class ParcelShelves {
             return BAD_TEXT;
         }
         history.prepare(now);
-        int executed = executeCommands();
+        int executed = 0;
+        for (int i = 0; i < text.length; i++) {
+            if (text.isStartOfCommand(i)) {
+                if (isError(executeCommand(i))) {
+                    break;
+                }
+                executed++;
+            }
+        }
         text.empty();
         return recorded(executed);
     }
@@ -385,7 +394,7 @@ public final class ParcelShelves {
         }
         now.put(at, sender, size, now.today);
         now.cameSoFar++;
-        return now.codes[at];
+        return now.codeOn(at);
     }
 
     private int letFetch(int code) {
@@ -443,7 +452,7 @@ public final class ParcelShelves {
         }
         now.put(to, now.senders[from], now.sizes[from], now.cameOn[from]);
         now.leave(from);
-        return now.codes[to];
+        return now.codeOn(to);
     }
 
     private int letPass(int days) {
@@ -467,19 +476,6 @@ public final class ParcelShelves {
     }
 
     /** Only for a buffer that is a text. */
-    private int executeCommands() {
-        int executed = 0;
-        int start = 0;
-        while (start < text.length) {
-            if (isError(executeCommand(start))) {
-                return executed;
-            }
-            executed++;
-            start = text.endOfCommand(start) + 1;
-        }
-        return executed;
-    }
-
     private int executeCommand(int start) {
         switch (text.signAt(start)) {
             case 'a':
@@ -522,7 +518,9 @@ public final class ParcelShelves {
     }
 
     private void refuseForNoParcel(int code) {
-        refuseFor(REASON_NO_PARCEL, now.rests(code) ? BEHIND_CODES_REST : NONE);
+        int index = indexOfCode(code);
+        boolean isResting = index >= 0 && now.rests(index);
+        refuseFor(REASON_NO_PARCEL, isResting ? BEHIND_CODES_REST : NONE);
     }
 
     // ---- numbers, shelves and codes
@@ -555,15 +553,23 @@ public final class ParcelShelves {
         return (10 - (3 * weekday + shelf + 7 * place) % 10) % 10;
     }
 
+    private static int weekdayOf(int day) {
+        return day % WEEKDAYS + 1;
+    }
+
     /** The places of all shelves are numbered on from 0, shelf by shelf. */
-    private static int codeOn(int day, int at) {
-        int weekday = day % WEEKDAYS + 1;
+    private static int codeFor(int weekday, int at) {
         int shelf = at / PLACES_OF_SHELF;
         int place = at % PLACES_OF_SHELF;
         return 1000 * weekday + 100 * shelf + 10 * place + checkDigit(weekday, shelf, place);
     }
 
-    /** Numbers the codes from 0, weekday by weekday and place by place; -1 for what is no code. */
+    /** The codes are numbered on from 0, weekday by weekday and place by place. */
+    private static int indexFor(int weekday, int at) {
+        return (weekday - 1) * PLACES + at;
+    }
+
+    /** Answers -1 for what is no code. */
     private static int indexOfCode(int code) {
         if (!isWithin(code, 0, LAST_CODE)) {
             return -1;
@@ -577,12 +583,12 @@ public final class ParcelShelves {
         if (code % 10 != checkDigit(weekday, shelf, place)) {
             return -1;
         }
-        return (weekday - 1) * PLACES + shelf * PLACES_OF_SHELF + place;
+        return indexFor(weekday, shelf * PLACES_OF_SHELF + place);
     }
 
     /** All that undo() and restore() bring back. */
     private static final class Shop {
-        /** In the row of codes: no parcel is here. No code is 0. */
+        /** In the row of weekdays: no parcel is here. */
         static final int FREE = 0;
         /** In the row of days: no parcel has left with this code. */
         static final int NEVER = -1;
@@ -593,7 +599,8 @@ public final class ParcelShelves {
         int cameSoFar;
         int feesPaid;
 
-        final int[] codes = new int[PLACES];
+        /** For each place the weekday in the code of its parcel; the place itself tells the rest of the code. */
+        final int[] weekdays = new int[PLACES];
         final int[] senders = new int[PLACES];
         final int[] sizes = new int[PLACES];
         final int[] cameOn = new int[PLACES];
@@ -618,7 +625,7 @@ public final class ParcelShelves {
             cameSoFar = other.cameSoFar;
             feesPaid = other.feesPaid;
             System.arraycopy(other.settings, 0, settings, 0, SETTINGS);
-            System.arraycopy(other.codes, 0, codes, 0, PLACES);
+            System.arraycopy(other.weekdays, 0, weekdays, 0, PLACES);
             System.arraycopy(other.senders, 0, senders, 0, PLACES);
             System.arraycopy(other.sizes, 0, sizes, 0, PLACES);
             System.arraycopy(other.cameOn, 0, cameOn, 0, PLACES);
@@ -630,22 +637,25 @@ public final class ParcelShelves {
         }
 
         boolean isFree(int at) {
-            return codes[at] == FREE;
+            return weekdays[at] == FREE;
+        }
+
+        /** Only for a place with a parcel. */
+        int codeOn(int at) {
+            return codeFor(weekdays[at], at);
         }
 
         boolean isLocked() {
             return wrongCodes >= WRONG_CODES_TO_LOCK;
         }
 
-        boolean rests(int code) {
-            int index = indexOfCode(code);
-            return index >= 0 && leftOn[index] != NEVER && today < leftOn[index] + settings[REST];
+        boolean rests(int index) {
+            return leftOn[index] != NEVER && today < leftOn[index] + settings[REST];
         }
 
-        /** Only for a code that rests. */
-        int endOfRest(int code) {
-            int index = indexOfCode(code);
-            return index < 0 ? NONE : leftOn[index] + settings[REST];
+        /** Whether the code rests that a parcel would get here today. */
+        boolean restsToday(int at) {
+            return rests(indexFor(weekdayOf(today), at));
         }
 
         /** A code names its place, so there is only one place to look at. */
@@ -655,14 +665,14 @@ public final class ParcelShelves {
                 return NOWHERE;
             }
             int at = index % PLACES;
-            return codes[at] == code ? at : NOWHERE;
+            return weekdays[at] == index / PLACES + 1 ? at : NOWHERE;
         }
 
         /** The shelves are numbered by size, so going up by number is the order of the document. */
         int placeToGive(int firstShelf, int lastShelf) {
             int end = (lastShelf + 1) * PLACES_OF_SHELF;
             for (int at = firstShelf * PLACES_OF_SHELF; at < end; at++) {
-                if (isFree(at) && !rests(codeOn(today, at))) {
+                if (isFree(at) && !restsToday(at)) {
                     return at;
                 }
             }
@@ -680,18 +690,17 @@ public final class ParcelShelves {
         }
 
         void put(int at, int sender, int size, int dayItCame) {
-            codes[at] = codeOn(today, at);
+            weekdays[at] = weekdayOf(today);
             senders[at] = sender;
             sizes[at] = size;
             cameOn[at] = dayItCame;
         }
 
         void leave(int at) {
-            int index = indexOfCode(codes[at]);
-            if (index >= 0) {
-                leftOn[index] = today;
+            if (weekdays[at] != FREE) {
+                leftOn[indexFor(weekdays[at], at)] = today;
+                weekdays[at] = FREE;
             }
-            codes[at] = FREE;
         }
 
         int feeAfter(int at, int days) {
@@ -747,7 +756,7 @@ public final class ParcelShelves {
         }
 
         private boolean isKeptTooLong(int at) {
-            return !isFree(at) && today - cameOn[at] > settings[KEEPING];
+            return weekdays[at] != FREE && today - cameOn[at] > settings[KEEPING];
         }
 
         int parcelsOnShelves() {
@@ -772,7 +781,7 @@ public final class ParcelShelves {
             int resting = 0;
             for (int place = 0; place < PLACES_OF_SHELF; place++) {
                 int at = shelf * PLACES_OF_SHELF + place;
-                if (isFree(at) && rests(codeOn(today, at))) {
+                if (isFree(at) && restsToday(at)) {
                     resting++;
                 }
             }
@@ -984,6 +993,10 @@ public final class ParcelShelves {
                 number = 10 * number + signAt(i) - '0';
             }
             return number;
+        }
+
+        boolean isStartOfCommand(int index) {
+            return index == 0 || signAt(index - 1) == ';';
         }
 
         /** The index of the next semicolon, or of the end of the buffer. */

@@ -87,9 +87,12 @@ public final class ParcelsTest {
         C.due("refusal(1)", s.refusal(1), 5);
         C.due("smaller ones get a place", s.come(0, 1), 1205);
         s.set(0, 0);
-        s.come(0, 2);
+        Checks.comeOften(s, 15, 0, 2);
         s.set(0, 5);
-        C.due("one taken, the others rest", s.come(0, 2), -4);
+        C.due("all but the last taken, the last rests", s.come(0, 2), -4);
+        C.due("refusal(1)", s.refusal(1), 5);
+        s.fetch(1560);
+        C.due("two free ones, both rest", s.come(0, 2), -4);
         C.due("refusal(1)", s.refusal(1), 5);
     }
 

@@ -29,6 +29,11 @@ public final class PredictionsTest {
         s.pass(1);
         C.due("of the next day", s.nextCode(2), 2400);
         C.due("as come() answers", s.come(1, 2), 2400);
+
+        s = new ParcelShelves();
+        Checks.comeOften(s, 15, 0, 2);
+        C.due("the last place of all", s.nextCode(2), 1573);
+        C.due("as come() answers", s.come(0, 2), 1573);
     }
 
     private static void promise21FeeIn() {
@@ -103,6 +108,16 @@ public final class PredictionsTest {
         C.due("least number 1", s.chargesIn(30), 160);
         s.set(2, 1);
         C.due("rate 1", s.chargesIn(30), 16);
+
+        s = new ParcelShelves();
+        Checks.comeOften(s, 2, 0, 0);
+        s.refuse(1007);
+        s.refuse(1010);
+        s.pass(1);
+        C.due("1, no courier", s.chargesIn(1), 0);
+        C.due("2, courier", s.chargesIn(2), 80);
+        s.pass(1);
+        C.due("1, courier", s.chargesIn(1), 80);
     }
 
     private static void theyChangeNothing() {

@@ -6,6 +6,7 @@ public final class UndoTest {
         promise28Undo();
         promise28FiveStates();
         promise28WholeState();
+        promise28PlaceUsedAgain();
         promise29Save();
         promise30Restore();
         C.end();
@@ -61,8 +62,10 @@ public final class UndoTest {
         s.refuse(1010);
         s.fetch(1);
         s.come(4, 2);
+        s.come(4, 1);
         int[] before = picture(s);
-        Checks.run(s, "p1403;d5;a1m;a2s;p0001;x1023");
+        Checks.run(s, "p1403;x1205;a1l;a1l;m1416>5;d5;a1m;a2s;a3s;p0001;x1023");
+        C.due("the commands were executed", s.day(), 5);
         s.set(0, 9);
         s.undo();
         s.undo();
@@ -72,8 +75,22 @@ public final class UndoTest {
         }
     }
 
+    /** Another parcel of another sender and size was on the place meanwhile. */
+    private static void promise28PlaceUsedAgain() {
+        ParcelShelves s = new ParcelShelves();
+        s.come(3, 1);
+        C.due("execute", Checks.run(s, "p1205;d1;a6s;m2004>2"), 4);
+        C.due("on the place", s.codeAt(2, 0), 2202);
+        C.due("size", s.parcel(2202, 1), 0);
+        s.undo();
+        int[] want = {3, 1, 0, 2, 0, 0};
+        for (int part = 0; part < 6; part++) {
+            C.due("parcel(1205, " + part + ")", s.parcel(1205, part), want[part]);
+        }
+    }
+
     private static int[] picture(ParcelShelves s) {
-        int[] seen = new int[5 + 10 + 48 + 50 + 9000 + 1];
+        int[] seen = new int[5 + 10 + 48 + 6 * 48 + 50 + 9000 + 1];
         int n = 0;
         for (int i = 0; i < 5; i++) {
             seen[n++] = s.setting(i);
@@ -82,7 +99,11 @@ public final class UndoTest {
             seen[n++] = s.total(i);
         }
         for (int i = 0; i < 48; i++) {
-            seen[n++] = s.codeAt(i / 8, i % 8);
+            int code = s.codeAt(i / 8, i % 8);
+            seen[n++] = code;
+            for (int part = 0; part < 6; part++) {
+                seen[n++] = s.parcel(code, part);
+            }
         }
         for (int i = 0; i < 50; i++) {
             seen[n++] = s.sender(i / 5, i % 5);
