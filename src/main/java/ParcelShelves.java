@@ -300,7 +300,9 @@ public final class ParcelShelves {
             return BAD_VALUE;
         }
         ahead.copyFrom(now);
-        ahead.beginDays(days);
+        for (int i = 0; i < days; i++) {
+            ahead.beginDay();
+        }
         return sum(ahead.charged) - sum(now.charged);
     }
 
@@ -462,7 +464,11 @@ public final class ParcelShelves {
         if (now.today > LAST_DAY - days) {
             return LIMIT;
         }
-        return now.beginDays(days);
+        int gone = 0;
+        for (int i = 0; i < days; i++) {
+            gone += now.beginDay();
+        }
+        return gone;
     }
 
     private int callCourier(int sender) {
@@ -710,14 +716,6 @@ public final class ParcelShelves {
         }
 
         /** Answers how many parcels go into bins. */
-        int beginDays(int days) {
-            int gone = 0;
-            for (int i = 0; i < days; i++) {
-                gone += beginDay();
-            }
-            return gone;
-        }
-
         int beginDay() {
             today++;
             wrongCodes = 0;
