@@ -16,11 +16,31 @@ final class Checks {
         }
     }
 
+    /** That two stories leave a shop in which every question is answered alike. */
+    void alike(String what, Picture.Story one, Picture.Story other) {
+        int[] seen = Picture.of(one);
+        int[] want = Picture.of(other);
+        due(what + ": answers in the picture", seen.length, want.length);
+        for (int i = 0; i < seen.length && i < want.length; i++) {
+            due(what + ": answer " + i + " of the picture", seen[i], want[i]);
+        }
+    }
+
     void end() {
         System.out.println(program + ": " + checked + " answers checked, " + wrong + " not as due");
         if (wrong != 0 || checked == 0) {
             System.exit(1);
         }
+    }
+
+    /** The code of a day, a shelf and a place, by the words of the document. */
+    static int code(int day, int shelf, int place) {
+        int weekday = day % 7 + 1;
+        int d = 0;
+        while ((3 * weekday + shelf + 7 * place + d) % 10 != 0) {
+            d++;
+        }
+        return 1000 * weekday + 100 * shelf + 10 * place + d;
     }
 
     /** Appends a text, sign by sign. */
@@ -44,5 +64,19 @@ final class Checks {
             code = shop.come(sender, size);
         }
         return code;
+    }
+
+    /** Lets parcels come and go into the bin of their sender at once. */
+    static void fillBin(ParcelShelves shop, int sender, int parcels) {
+        for (int i = 0; i < parcels; i++) {
+            shop.refuse(shop.come(sender, 0));
+        }
+    }
+
+    /** Lets many days begin, 30 at once; the last day takes 334 calls of the 512. */
+    static void passDays(ParcelShelves shop, int days) {
+        for (int left = days; left > 0; left -= 30) {
+            shop.pass(Math.min(left, 30));
+        }
     }
 }

@@ -34,7 +34,7 @@ public final class SettingsTest {
         C.due("new restore()", s.restore(), -3);
         C.due("new clearText()", s.clearText(), 0);
         for (int code = 0; code <= 9999; code += 7) {
-            C.due("new restsUntil", s.restsUntil(code), -6);
+            C.due("new restsUntil", new ParcelShelves().restsUntil(code), -6);
         }
     }
 

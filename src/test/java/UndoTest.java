@@ -53,9 +53,23 @@ public final class UndoTest {
         }
     }
 
-    /** All that can be asked of the state comes back. */
+    /** All that can be asked of the state comes back; the records behind it are set alike. */
     private static void promise28WholeState() {
-        ParcelShelves s = new ParcelShelves();
+        C.alike("undone", s -> {
+            begin(s);
+            Checks.run(s, "p1403;x1205;a1l;a1l;m1416>5;d5;a1m;a2s;a3s;p0001;x1023");
+            C.due("the commands were executed", s.day(), 5);
+            s.set(0, 9);
+            s.undo();
+            s.undo();
+            recordFive(s);
+        }, s -> {
+            begin(s);
+            recordFive(s);
+        });
+    }
+
+    private static void begin(ParcelShelves s) {
         s.set(3, 3);
         Checks.comeOften(s, 3, 2, 0);
         s.refuse(1007);
@@ -63,15 +77,13 @@ public final class UndoTest {
         s.fetch(1);
         s.come(4, 2);
         s.come(4, 1);
-        int[] before = picture(s);
-        Checks.run(s, "p1403;x1205;a1l;a1l;m1416>5;d5;a1m;a2s;a3s;p0001;x1023");
-        C.due("the commands were executed", s.day(), 5);
-        s.set(0, 9);
-        s.undo();
-        s.undo();
-        int[] after = picture(s);
-        for (int i = 0; i < before.length; i++) {
-            C.due("picture " + i, after[i], before[i]);
+    }
+
+    /** The latest refusal is not part of the state: it is set alike too. */
+    private static void recordFive(ParcelShelves s) {
+        s.refuse(0);
+        for (int i = 0; i < 5; i++) {
+            s.set(4, 9);
         }
     }
 
@@ -87,32 +99,6 @@ public final class UndoTest {
         for (int part = 0; part < 6; part++) {
             C.due("parcel(1205, " + part + ")", s.parcel(1205, part), want[part]);
         }
-    }
-
-    private static int[] picture(ParcelShelves s) {
-        int[] seen = new int[5 + 10 + 48 + 6 * 48 + 50 + 9000 + 1];
-        int n = 0;
-        for (int i = 0; i < 5; i++) {
-            seen[n++] = s.setting(i);
-        }
-        for (int i = 0; i < 10; i++) {
-            seen[n++] = s.total(i);
-        }
-        for (int i = 0; i < 48; i++) {
-            int code = s.codeAt(i / 8, i % 8);
-            seen[n++] = code;
-            for (int part = 0; part < 6; part++) {
-                seen[n++] = s.parcel(code, part);
-            }
-        }
-        for (int i = 0; i < 50; i++) {
-            seen[n++] = s.sender(i / 5, i % 5);
-        }
-        for (int i = 0; i < 9000; i++) {
-            seen[n++] = s.restsUntil(i);
-        }
-        seen[n] = s.day();
-        return seen;
     }
 
     private static void promise29Save() {
